@@ -581,7 +581,7 @@ public final class SmellBurdens {
       case 2:
         return Scene.innOf(state, i);
       default:
-        return Plain.loadTaken(plain.takesToday(state), i);
+        return Plain.loadTaken(plain.takesOf(state, Plain.BY_NUMBERS, Plain.ALL_AWAKE), i);
     }
   }
 
@@ -597,12 +597,12 @@ public final class SmellBurdens {
       case 3:
         return plain.isHome(state, l) ? 1 : 0;
       default:
-        return Plain.takerOf(plain.takesToday(state), l);
+        return Plain.takerOf(plain.takesOf(state, Plain.BY_NUMBERS, Plain.ALL_AWAKE), l);
     }
   }
 
   private int doDay() {
-    int takes = plain.takesToday(deeds.now);
+    int takes = plain.takesOf(deeds.now, Plain.BY_NUMBERS, Plain.ALL_AWAKE);
     deeds.add(plain.gone(deeds.now, takes), true);
     return Plain.howManyTaken(takes);
   }
@@ -769,7 +769,7 @@ public final class SmellBurdens {
     }
 
     static int likeness(int kind, int memory, int marks) {
-      if (isA(kind, GREY)) {
+      if (kind == GREY || kind == OLD) {
         int both = Integer.bitCount(memory & marks);
         return kind == OLD ? 2 * both : both;
       }
@@ -847,7 +847,7 @@ public final class SmellBurdens {
    * and 1 more, or 0. An order of the LINE has 2 bits an ASS, the first in the LINE the highest.
    */
   private static final class Plain {
-    private static final int ROAD_STEP = 3, EACH_MASK = 7;
+    private static final int EACH_BITS = 3, EACH_MASK = 7;
     private static final int BY_NUMBERS = 0b00011011, ALL_AWAKE = 15;
     private int asses;
     private int loads;
@@ -875,16 +875,16 @@ public final class SmellBurdens {
     }
 
     void addRoad(int from, int to) {
-      roads |= to << ROAD_STEP * from;
+      roads |= to << EACH_BITS * from;
     }
 
     void addAss(int kind) {
-      kinds |= kind << ROAD_STEP * asses;
+      kinds |= kind << EACH_BITS * asses;
       asses++;
     }
 
     void addLoad(int home) {
-      homes |= home << ROAD_STEP * loads;
+      homes |= home << EACH_BITS * loads;
       loads++;
     }
 
@@ -897,15 +897,15 @@ public final class SmellBurdens {
     }
 
     int kindOf(int i) {
-      return kinds >> ROAD_STEP * i & EACH_MASK;
+      return kinds >> EACH_BITS * i & EACH_MASK;
     }
 
     int homeOf(int l) {
-      return homes >> ROAD_STEP * l & EACH_MASK;
+      return homes >> EACH_BITS * l & EACH_MASK;
     }
 
     int roadFrom(int inn) {
-      return roads >> ROAD_STEP * inn & EACH_MASK;
+      return roads >> EACH_BITS * inn & EACH_MASK;
     }
 
     int roadsAsNumber() {
@@ -976,15 +976,18 @@ public final class SmellBurdens {
       return most;
     }
 
-    /** Whether a LOAD stands at the ASS's INN, is not at its HOME, and is not REFUSED. */
-    boolean couldTake(long state, int i, int l) {
-      return Scene.placeOf(state, l) == Scene.innOf(state, i)
-          && !isHome(state, l)
-          && wouldTake(state, i, Scene.marksOf(state, l));
-    }
-
-    int takesToday(long state) {
-      return takesOf(state, BY_NUMBERS, ALL_AWAKE);
+    /**
+     * By how much a LOAD draws an ASS: it is LIKE to it by that; 0 if it isn't at its INN, is at its
+     * HOME, or is REFUSED.
+     */
+    int pull(long state, int i, int l) {
+      int place = Scene.placeOf(state, l);
+      if (place != Scene.innOf(state, i) || place == homeOf(l)) {
+        return 0;
+      }
+      int kind = kindOf(i);
+      int by = Kind.likeness(kind, Scene.memoryOf(state, i), Scene.marksOf(state, l));
+      return by < Kind.leastLike(kind) ? 0 : by;
     }
 
     /** The TAKES of a DAY in an order of the LINE, if those of a set of ASSES are awake. */
@@ -996,7 +999,7 @@ public final class SmellBurdens {
         int l = (awake >> i & 1) == 1 ? choiceOf(state, i, taken) : NONE;
         if (l != NONE) {
           taken |= 1 << l;
-          takes |= l + 1 << ROAD_STEP * i;
+          takes |= l + 1 << EACH_BITS * i;
         }
       }
       return takes;
@@ -1006,12 +1009,10 @@ public final class SmellBurdens {
       int choice = NONE;
       int most = 0;
       for (int l = 0; l < loads; l++) {
-        if ((taken >> l & 1) == 0 && couldTake(state, i, l)) {
-          int by = likeness(state, i, Scene.marksOf(state, l));
-          if (by > most) {
-            most = by;
-            choice = l;
-          }
+        int by = (taken >> l & 1) == 1 ? 0 : pull(state, i, l);
+        if (by > most) {
+          most = by;
+          choice = l;
         }
       }
       return choice;
@@ -1038,7 +1039,7 @@ public final class SmellBurdens {
     }
 
     static int loadTaken(int takes, int i) {
-      int more = takes >> ROAD_STEP * i & EACH_MASK;
+      int more = takes >> EACH_BITS * i & EACH_MASK;
       return more == 0 ? NONE : more - 1;
     }
 
@@ -1063,16 +1064,18 @@ public final class SmellBurdens {
   /** Reads a TEXT as a PLAIN, into a draft; where it is stuck is the FAULT. */
   private static final class Reader {
     private static final int END = -1000, STUCK = -1;
+    private final int[] signs = new int[MOST_BYTES];
     private final Plain draft = new Plain();
     private long state;
-    private Shelf texts;
-    private int number;
+    private int size;
     private int spot;
 
     /** The FAULT of a TEXT, or NONE: then the draft and its state are read. */
-    int read(Shelf from, int t) {
-      texts = from;
-      number = t;
+    int read(Shelf texts, int t) {
+      size = texts.sizeOf(t);
+      for (int i = 0; i < size && i < signs.length; i++) {
+        signs[i] = texts.get(t, i);
+      }
       spot = 0;
       state = 0L;
       draft.clear();
@@ -1080,7 +1083,7 @@ public final class SmellBurdens {
     }
 
     private int sign() {
-      return texts != null && texts.holds(number, spot, 1) ? texts.get(number, spot) : END;
+      return spot >= 0 && spot < size && spot < signs.length ? signs[spot] : END;
     }
 
     private void skipBlanks() {
@@ -1244,14 +1247,10 @@ public final class SmellBurdens {
   private static final class Foresight {
     private final long[] seen = new long[FAR + 1];
 
-    private static long behindDay(Plain plain, long state) {
-      return plain.gone(state, plain.takesToday(state));
-    }
-
     static long behindDays(Plain plain, long state, int n) {
       long now = state;
       for (int d = 0; d < n; d++) {
-        now = behindDay(plain, now);
+        now = plain.gone(now, plain.takesOf(now, Plain.BY_NUMBERS, Plain.ALL_AWAKE));
       }
       return now;
     }
@@ -1266,7 +1265,7 @@ public final class SmellBurdens {
         if (allHome(plain, now)) {
           return d;
         }
-        now = behindDay(plain, now);
+        now = behindDays(plain, now, 1);
       }
       return NONE;
     }
@@ -1275,7 +1274,7 @@ public final class SmellBurdens {
     int firstAgain(Plain plain, long state) {
       seen[0] = state;
       for (int d = 1; d < seen.length; d++) {
-        seen[d] = behindDay(plain, seen[d - 1]);
+        seen[d] = behindDays(plain, seen[d - 1], 1);
         if (daysSince(d) > 0) {
           return d;
         }
@@ -1303,17 +1302,16 @@ public final class SmellBurdens {
       int fewest = MARKS + 1;
       for (int marks = 0; marks < SETS; marks++) {
         int changes = Integer.bitCount(marks ^ now);
-        if (changes < fewest && comesHome(plain, Scene.withMarks(state, l, marks), l, n)) {
-          fewest = changes;
-          best = marks;
+        if (changes < fewest) {
+          // a LOAD at its HOME is not taken again: where it is at last tells of all the DAYS
+          long then = behindDays(plain, Scene.withMarks(state, l, marks), n);
+          if (plain.isHome(then, l)) {
+            fewest = changes;
+            best = marks;
+          }
         }
       }
       return best;
-    }
-
-    /** A LOAD at its HOME is not taken again: where it is at last tells of all the DAYS. */
-    private static boolean comesHome(Plain plain, long state, int l, int n) {
-      return plain.isHome(behindDays(plain, state, n), l);
     }
   }
 
@@ -1363,10 +1361,8 @@ public final class SmellBurdens {
 
     /** The most of ASSES i, i + 1, .. if this LOAD goes to i, or NONE: it can't. */
     private int mostWith(Plain plain, long state, int i, int given, int l) {
-      if ((given >> l & 1) == 1 || !plain.couldTake(state, i, l)) {
-        return NONE;
-      }
-      return plain.likeness(state, i, Scene.marksOf(state, l)) + bestFrom(i + 1, given | 1 << l);
+      int by = (given >> l & 1) == 1 ? 0 : plain.pull(state, i, l);
+      return by == 0 ? NONE : by + bestFrom(i + 1, given | 1 << l);
     }
 
     /** Puts the first row of those that come to the most into a ROW that holds NONE alone. */
