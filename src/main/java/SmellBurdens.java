@@ -848,7 +848,9 @@ public final class SmellBurdens {
    */
   private static final class Plain {
     private static final int EACH_BITS = 3, EACH_MASK = 7;
-    private static final int BY_NUMBERS = 0b00011011, ALL_AWAKE = 15;
+    /** 0, 1, 2, 3 by 2 bits each. */
+    private static final int BY_NUMBERS = 27;
+    private static final int ALL_AWAKE = 15;
     private int asses;
     private int loads;
     private int kinds;

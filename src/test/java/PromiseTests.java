@@ -201,6 +201,8 @@ public final class PromiseTests {
     SmellBurdens x = new SmellBurdens();
     Due.fill(x, 0, 1, 2, 4);
     told("mean(0)", x, x.mean(0), 2);
+    Due.fill(x, 0, 9);
+    told("mean of one", x, x.mean(0), 9);
     Due.fill(x, 0, -1, -2, -5);
     told("mean below 0, cut", x, x.mean(0), -2);
     Due.fill(x, 0, Integer.MAX_VALUE, Integer.MAX_VALUE);
@@ -259,6 +261,8 @@ public final class PromiseTests {
     faultIs("", 0);
     faultIs("   ", 3);
     faultIs("x", 0);
+    faultIs("a000l0000", 0);
+    faultIs("n0123 a000l0000", 5);
     faultIs("  N01234", 2);
     faultIs("\tn01234", 0);
     faultIs("\u00e1", 0);
@@ -296,6 +300,9 @@ public final class PromiseTests {
     faultIs("n01234a154l1500a", 15);
     faultIs("n01234a154l1500x", 15);
     faultIs("n01234a154l15000", 15);
+    faultIs("n01234a1 a000l0000", 8);
+    faultIs("n01234a154l15 l1500", 13);
+    faultIs("n01234a154l1500 l1", 18);
     faultIs("n01234a000a000a000a000 a", 23);
     faultIs("n01234a000a000a000a000b", 22);
     faultIs("n01234a000l0000l0000l0000l0000l0000 l", 36);
@@ -372,6 +379,9 @@ public final class PromiseTests {
     told("at HOME", x, x.load(2, 3), 1);
     told("taken", x, x.load(1, 4), 0);
     told("not taken", x, x.load(0, 4), NONE);
+    SmellBurdens y = Due.with("n00000a152a150l1514l1504");
+    told("nobody is there", y, y.load(0, 4), NONE);
+    told("taken by ASS 1", y, y.load(1, 4), 1);
     is("load(4, 0)", x.load(4, 0), BAD);
     is("load(-1, 0)", x.load(-1, 0), BAD);
     is("load(0, 5)", x.load(0, 5), BAD);
@@ -384,6 +394,8 @@ public final class PromiseTests {
     is("an OLD one is a GREY", x.mark(1, 1), 3);
     is("OLD: the most LIKE anywhere", x.mark(1, 4), 6);
     is("YOUNG: just like", x.mark(2, 2), 2);
+    is("YOUNG: just like none", Due.with("n00000y050l0704").mark(0, 2), 0);
+    is("YOUNG: the first, wherever", Due.with("n00000y050l0533l0704l0604").mark(0, 2), 1);
     is("MULE", x.mark(3, 5), 4);
     is("a MULE is a STUBBORN one", x.mark(3, 3), 3);
     found("a GREY is no OLD one", x, 0, x.mark(0, 4), UNLIKE);
@@ -659,6 +671,13 @@ public final class PromiseTests {
     is("asked()", x.asked(), 5);
     x = Due.with("n00000m150l1504");
     is("by none", x.marks(0, 20), NONE);
+    x = Due.with("n12340m150l0001");
+    is("all four", x.marks(0, 1), 4);
+    is("asked()", x.asked(), 15);
+    x = Due.with("n12340m000l0101");
+    is("to none at all", x.marks(0, 1), 1);
+    is("asked()", x.asked(), 0);
+    is("some DAY ahead of n", Due.with("n12340y030l0401").marks(0, 20), 0);
   }
 
   private static void matchCall() {
@@ -678,6 +697,9 @@ public final class PromiseTests {
     x = Due.with("n00000a150m150l1504l0704");
     is("match(5)", x.match(5), 7);
     rowIs("together", x, 5, 1, 0);
+    x = Due.with("n00000a150l0104");
+    is("LIKE by 1", x.match(1), 1);
+    rowIs("LIKE by 1", x, 1, 0);
     x = Due.with("n00000a150s151m150l1500l0304l0704");
     is("match(0)", x.match(0), 3);
     rowIs("HOME, INN, REFUSED", x, 0, 2, NONE, NONE);
@@ -749,7 +771,7 @@ public final class PromiseTests {
     found("odd", x, x.findings(SIZE), pairsCall(x, which, 0, 5), SIZE);
     x.row(5, 18);
     found("nine pairs", x, x.findings(SIZE), pairsCall(x, which, 0, 5), SIZE);
-    int[][] unlike = {{16, 0}, {-1, 0}, {0, 2}, {0, -1}, {1, 1, 0, 0, 3, 2}};
+    int[][] unlike = {{16, 0}, {-1, 0}, {0, 2}, {0, -1}, {1, 1, 0, 0, 3, 2}, {1, 1, 5, 2}, {1, 1, 16, 0}};
     for (int[] pairs : unlike) {
       Due.fill(x, 5, pairs);
       found("no such pair", x, x.findings(UNLIKE), pairsCall(x, which, 0, 5), UNLIKE);
@@ -811,6 +833,8 @@ public final class PromiseTests {
     x.row(0, 0);
     is("STUBBORN", x.next(2, 0), 0);
     is("asked()", x.asked(), 11);
+    is("GREY: half of them", x.next(1, 0), 1);
+    is("asked()", x.asked(), 8);
     Due.fill(x, 0, 5, 1, 10, 0);
     is("one MEMORY", x.next(0, 0), 0);
     is("asked()", x.asked(), 1);
@@ -836,11 +860,19 @@ public final class PromiseTests {
     x = Due.with("n00000a151a002g031l0300");
     is("as it is", x.duel(0, 0), 3);
     is("once each", x.duel(0, 1), 3);
+    x = Due.with("n00000g011l0100");
+    is("the only MARK is taken off", x.duel(0, 1), 0);
+    x = Due.with("n00000m001l0000");
+    is("no MARKS at all", x.duel(0, 0), 1);
+    x = Due.with("n00000a001l0000");
+    is("no MARKS at first", x.duel(0, 1), 1);
+    is("far from what it REFUSES", x.duel(0, 2), 1);
     is("duel(0, 3)", x.duel(0, 3), BAD);
     is("duel(0, -1)", x.duel(0, -1), BAD);
     is("duel(1, 0)", x.duel(1, 0), BAD);
     is("duel(-1, 0)", x.duel(-1, 0), BAD);
-    told("aside", x, x.load(0, 0), 3);
+    is("aside", x.count(3), 0);
+    told("aside", x, x.load(0, 0), 0);
   }
 
   private static void oddsCall() {
@@ -882,6 +914,10 @@ public final class PromiseTests {
     SmellBurdens x = Due.with(WALK);
     is("lots(1, 1)", x.lots(1, 1), 0);
     told("led", x, x.ass(0, 2), 4);
+    // 5 * 48271 = 241355: by 8 30169, modulo 4 1; by 64 3771, modulo 5 1
+    is("lots(1, 5)", x.lots(1, 5), 0);
+    told("led", x, x.ass(0, 2), 1);
+    x.undo(1);
     is("lots(1, 1)", x.lots(1, 1), 0);
     told("where it is", x, x.ass(0, 2), 4);
     is("that, too, is a DEED", x.count(3), 2);
