@@ -287,6 +287,9 @@ public final class PromiseTests {
     faultIs("n01234a99", 7);
     faultIs("n01234ax5", 7);
     faultIs("n01234a1x", 8);
+    faultIs("n01234a9x", 8);
+    faultIs("n01234a1:0", 8);
+    faultIs("n01234a:", 7);
     faultIs("n01234a1 5", 8);
     faultIs("n01234a15 0", 9);
     faultIs("n01234a155", 9);
@@ -343,6 +346,13 @@ public final class PromiseTests {
     told("MARKS", x, x.load(0, 0), 12);
     told("INN of the LOAD", x, x.load(0, 1), 3);
     told("HOME", x, x.load(0, 2), 4);
+    Due.write(x, 1, "n00000y000l0003");
+    is("plain(1)", x.plain(1), 1);
+    told("no KIND is left of the one before", x, x.ass(0, 0), 2);
+    told("no MEMORY", x, x.ass(0, 1), 0);
+    told("no INN", x, x.ass(0, 2), 0);
+    told("no HOME", x, x.load(0, 2), 3);
+    is("no ROADS", x.count(5), 0);
   }
 
   private static void assCall() {
@@ -396,6 +406,8 @@ public final class PromiseTests {
     is("YOUNG: just like", x.mark(2, 2), 2);
     is("YOUNG: just like none", Due.with("n00000y050l0704").mark(0, 2), 0);
     is("YOUNG: the first, wherever", Due.with("n00000y050l0533l0704l0604").mark(0, 2), 1);
+    is("YOUNG: just like no MARKS", Due.with("n00000y000l0704").mark(0, 2), 0);
+    is("OLD: the first is the most LIKE", Due.with("n00000o150l1504l0104").mark(0, 4), 8);
     is("MULE", x.mark(3, 5), 4);
     is("a MULE is a STUBBORN one", x.mark(3, 3), 3);
     found("a GREY is no OLD one", x, 0, x.mark(0, 4), UNLIKE);
@@ -524,6 +536,11 @@ public final class PromiseTests {
     is("undo(1)", x.undo(1), BAD);
     is("on again", x.day(), 1);
     is("as behind one", x.digest(), second);
+    for (int d = 0; d < 4; d++) {
+      x.day();
+    }
+    is("undo(3)", x.undo(3), 2);
+    is("three DAYS are left", x.count(2), 3);
     is("without ASSES", new SmellBurdens().undo(0), 0);
     is("without ASSES", new SmellBurdens().undo(1), BAD);
   }
@@ -560,6 +577,15 @@ public final class PromiseTests {
     is("its DEEDS are undone", x.undo(0), 1);
     told("INN", x, x.ass(0, 2), 0);
     is("it is still kept", x.on(1), 2);
+    x.undo(0);
+    x.lead(0, 3);
+    x.smear(0, 3);
+    is("on(1) again", x.on(1), 2);
+    is("not what was done since", x.undo(1), 1);
+    told("INN", x, x.ass(0, 2), 1);
+    told("MARKS", x, x.load(0, 0), 5);
+    is("DAY", x.count(2), 1);
+    is("on(1) again", x.on(1), 2);
     is("on(3)", x.on(3), BAD);
     is("on(-1)", x.on(-1), BAD);
     found("on(0)", x, 0, x.on(0), NOTHING);
@@ -703,6 +729,9 @@ public final class PromiseTests {
     x = Due.with("n00000a150s151m150l1500l0304l0704");
     is("match(0)", x.match(0), 3);
     rowIs("HOME, INN, REFUSED", x, 0, 2, NONE, NONE);
+    x = Due.with("n00000a150a150g150o150l1504l1504l1504l1504");
+    is("four", x.match(0), 20);
+    rowIs("four", x, 0, 0, 1, 2, 3);
     is("match(6)", x.match(6), BAD);
     is("match(-1)", x.match(-1), BAD);
     is("aside", x.count(3), 0);
