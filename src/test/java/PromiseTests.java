@@ -732,6 +732,10 @@ public final class PromiseTests {
     x = Due.with("n00000a150a150g150o150l1504l1504l1504l1504");
     is("four", x.match(0), 20);
     rowIs("four", x, 0, 0, 1, 2, 3);
+    Due.write(x, 0, "n00000a000l1504");
+    x.plain(0);
+    is("nothing can be given", x.match(0), 0);
+    rowIs("nothing can be given", x, 0, NONE);
     is("match(6)", x.match(6), BAD);
     is("match(-1)", x.match(-1), BAD);
     is("aside", x.count(3), 0);
