@@ -1274,12 +1274,13 @@ public final class SmellBurdens {
 
     /** Behind how many DAYS a state comes again first, or NONE. */
     int firstAgain(Plain plain, long state) {
-      seen[0] = state;
-      for (int d = 1; d < seen.length; d++) {
-        seen[d] = behindDays(plain, seen[d - 1], 1);
+      long now = state;
+      for (int d = 0; d < seen.length; d++) {
+        seen[d] = now;
         if (daysSince(d) > 0) {
           return d;
         }
+        now = behindDays(plain, now, 1);
       }
       return NONE;
     }
