@@ -185,12 +185,17 @@ public final class LanguageTests {
         "multianewarray", "invokeinterface");
     Set<String> making = Set.of("new", "newarray", "anewarray");
     String method = "";
+    boolean lengthSeen = false;
+    boolean choiceSeen = false;
+    String before = "";
     for (String line : code.split("\n")) {
       Matcher m = head.matcher(line);
       if (m.matches()) {
         String plainName = m.group(1).equals(name) ? "<init>" : m.group(1);
         method = name + "." + plainName;
         calls.put(method, new HashSet<>());
+        lengthSeen = false;
+        choiceSeen = false;
         continue;
       }
       due.holds("rule 6: an exception table in " + method, !line.contains("Exception table"));
@@ -199,6 +204,13 @@ public final class LanguageTests {
         continue;
       }
       due.holds("rules 2, 6: " + m.group(1) + " in " + method, !forbidden.contains(m.group(1)));
+      String does = m.group(1);
+      lengthSeen |= does.equals("arraylength");
+      choiceSeen |= does.startsWith("if");
+      due.holds("rule 7: " + does + " behind no length in " + method, lengthSeen || !does.matches("[abcdfils]a(load|store)"));
+      due.holds("rule 7: " + does + " behind no test in " + method,
+          choiceSeen || before.matches("(ldc|[il]const|[bs]ipush).*") || !does.matches("[il](div|rem)"));
+      before = does;
       due.holds("the room: " + m.group(1) + " in " + method, !making.contains(m.group(1)) || method.endsWith(".<init>"));
       if (m.group(2) != null) {
         String called = m.group(2).replace("\"", "");
